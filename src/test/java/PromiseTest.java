@@ -1,15 +1,5 @@
 /** Each promise of the document by itself: ordinary inputs, the edges it names, wrong inputs. */
-public final class PromiseTest {
-    private static final int BAD = SpeckValves.BAD;
-    private static final int NO = SpeckValves.NO;
-    private static final int FULL = SpeckValves.FULL;
-    private static final int NONE = SpeckValves.NONE;
-    private static final int ZERO = SpeckValves.ZERO;
-    private static final int LEAST = Integer.MIN_VALUE;
-    private static final int MOST = Integer.MAX_VALUE;
-
-    private static final Answers answers = new Answers();
-
+public final class PromiseTest extends Calls {
     public static void main(String[] args) {
         newObject();
         write();
@@ -42,54 +32,6 @@ public final class PromiseTest {
         count();
         told();
         answers.end();
-    }
-
-    private static SpeckValves laid(String text) {
-        SpeckValves x = new SpeckValves();
-        tell(x, text);
-        answers.due("lay() of " + text, x.lay() > 0 ? 1 : 0, 1);
-        return x;
-    }
-
-    private static void tell(SpeckValves x, String text) {
-        x.wipe();
-        for (int i = 0; i < text.length(); i++) {
-            x.write(text.charAt(i));
-        }
-    }
-
-    /** Sees LINES, and answers how many ENDED by them together. */
-    private static int seen(SpeckValves x, long... lines) {
-        int all = 0;
-        for (long line : lines) {
-            all += x.see(line);
-        }
-        return all;
-    }
-
-    private static int[] blobOf(SpeckValves x, int b) {
-        int[] all = new int[10];
-        for (int what = 0; what < 10; what++) {
-            all[what] = x.blob(b, what);
-        }
-        return all;
-    }
-
-    private static int[] countsOf(SpeckValves x) {
-        int[] all = new int[12];
-        for (int what = 0; what < 12; what++) {
-            all[what] = x.count(what);
-        }
-        return all;
-    }
-
-    /** First and last TICKS of all OPENINGS, one behind the other. */
-    private static int[] openingsOf(SpeckValves x, int j) {
-        int[] all = new int[2 * Math.max(x.opening(j, -1, 0), 0)];
-        for (int i = 0; i < all.length; i++) {
-            all[i] = x.opening(j, i / 2, i % 2);
-        }
-        return all;
     }
 
     private static void newObject() {
