@@ -140,6 +140,14 @@ public final class BlobBoundaryTest extends Calls {
         for (int b = 0; b < 4; b++) {
             answers.due("of one LINE: blob " + b, x.blob(b, 2), 2 * b);
         }
+        for (int tall = 2; tall <= 9; tall++) {
+            x = cells(8, "r2,99;");
+            seenTimes(x, tall, 10101010L);
+            x.see(0L);
+            for (int b = 0; b < 4; b++) {
+                answers.due("of one LINE, TALL " + tall + ": blob " + b, x.blob(b, 2), 2 * b);
+            }
+        }
         x = cells(8, "r2,99;");
         seen(x, 1L, 101L, 10101L, 1010101L, 0L);
         for (int b = 0; b < 4; b++) {

@@ -35,6 +35,7 @@ public final class ValveBoundaryTest extends Calls {
                         boolean isOver = cell >= j * (w / v) && cell < (j + 1) * (w / v);
                         answers.due("air(" + j + ") of CELL " + cell + ", " + w + " by " + v, x.air(j), isOver ? 1 : 0);
                     }
+                    answers.due("BLOWN at CELL " + cell + ", " + w + " by " + v, x.blob(0, 9), 1);
                 }
             }
         }
