@@ -2,6 +2,7 @@
 public final class TextBoundaryTest extends Calls {
     public static void main(String[] args) {
         newObject();
+        laidAtFirst();
         letters();
         lettersAlone();
         textFull();
@@ -69,6 +70,26 @@ public final class TextBoundaryTest extends Calls {
         answers.due("another object has a TEXT of its own", other.count(11), 0);
         other.see(9L);
         answers.due("another object has LINES of its own", x.count(3), 0);
+    }
+
+    private static void laidAtFirst() {
+        answers.about("1, 5 at first g8,4,6,1,1;r0,5;r1,2;d7;q2;");
+        SpeckValves[] both = {new SpeckValves(), laid("g8,4,6,1,1;r0,5;r1,2;d7;q2;")};
+        for (SpeckValves x : both) {
+            answers.due("W, V, RULES", x.count(0) * 100 + x.count(1) * 10 + x.count(2), 842);
+            answers.due("RULE 0", x.told(0, 0) * 100 + x.told(0, 1), 5);
+            answers.due("RULE 1", x.told(1, 0) * 100 + x.told(1, 1), 102);
+            seen(x, 67000000L, 0L, 0L, 0L, 60000000L, 0L, 0L, 0L, 0L, 60000000L, 0L);
+            answers.due("DARK from 7 on", x.blob(0, 6), 1);
+            // Wanted 5 to 7, 9 to 11 (one TICK between) and 14 to 16 (two between).
+            answers.due("FALL, AHEAD, BEHIND, REST", openingsOf(x, 0), 5, 11, 14, 16);
+            x.clear();
+            seen(x, 444L, 0L, 71111L, 0L, 77111L, 0L, 555L, 0L);
+            answers.due("MEAN 4, no DARK", x.blob(0, 7), NONE);
+            answers.due("one DARK", x.blob(1, 7), NONE);
+            answers.due("two DARK", x.blob(2, 7), 1);
+            answers.due("MEAN 5", x.blob(3, 7), 0);
+        }
     }
 
     private static void letters() {
