@@ -256,7 +256,7 @@ public final class SpeckValves {
     private void dropLines() {
         stand.lineCount = 0;
         fold.empty();
-        judge();
+        verdict.closeAll();
     }
 
     private void foldAll() {
@@ -811,10 +811,14 @@ public final class SpeckValves {
             }
         }
 
-        void judgeAll(Plan plan, int[] numbers, Fold fold) {
+        void closeAll() {
             for (int j = 0; j < valves.length; j++) {
                 valves[j].openings = 0;
             }
+        }
+
+        void judgeAll(Plan plan, int[] numbers, Fold fold) {
+            closeAll();
             for (int b = 0; b < endedOf(fold); b++) {
                 badBy[b] = firstRuleFor(plan, numbers, fold.ended[b]);
                 if (isBad(b)) {
